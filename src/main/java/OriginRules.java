@@ -354,7 +354,7 @@ public final class OriginRules {
             return passesDigits(CODE_DIGITS, LAST_CODE) && passesSign(':') && passesRule();
         }
 
-        /** With the ; behind it. A depth is enough for brackets: a rule is alike in and out of them. */
+        /** With the ; behind it. Brackets need a depth alone: a rule is alike in and out of them. */
         private boolean passesRule() {
             int depth = 0;
             for (int factors = 0; factors < length; factors++) {
