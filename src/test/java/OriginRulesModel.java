@@ -53,7 +53,10 @@ public final class OriginRulesModel {
         }
 
         void go() {
-            writeAndRead();
+            // Without a row all verdicts are 3
+            for (int tries = 0; tries < 4 && m.rows.isEmpty() && calls < 200; tries++) {
+                writeAndRead();
+            }
             while (calls < 512 && wrong < 20) {
                 if (random.nextInt(60) == 0 && calls < 200) {
                     writeAndRead();
@@ -74,7 +77,7 @@ public final class OriginRulesModel {
 
         void oneCall() {
             switch (random.nextInt(20)) {
-                case 0: call("sign", number(32, 127), 0, 0); break;
+                case 0: if (random.nextInt(8) == 0) { call("sign", number(32, 127), 0, 0); } break;
                 case 1: call("read", 0, 0, 0); break;
                 case 2: case 3: call("part", code(), number(0, 9), cents()); break;
                 case 4: if (random.nextInt(4) == 0) { call("clear", 0, 0, 0); } break;
@@ -196,14 +199,10 @@ public final class OriginRulesModel {
         private static final String SIGNS = "0123456789:;()&|WCHSVP!~wx";
 
         static String chance(Random random) {
-            StringBuilder text = new StringBuilder();
-            int rows = random.nextInt(8) == 0 ? 15 + random.nextInt(8) : 1 + random.nextInt(5);
-            for (int i = 0; i < rows; i++) {
-                String[] beginnings = {"1", "11", "1100", "110000", "0", "01", "9", "2", "21", "12", "00000"};
-                text.append(beginnings[random.nextInt(beginnings.length)]).append(':');
-                int deepest = rows > 10 ? 0 : random.nextInt(4) == 0 ? 9 : 2;
-                rule(random, text, deepest);
-                text.append(';');
+            StringBuilder text = rows(random);
+            // Most that are too long are left, since a text that is cut off gives no rules
+            for (int again = 0; again < 20 && text.length() > 300 && random.nextInt(8) != 0; again++) {
+                text = rows(random);
             }
             if (text.length() > 300) {
                 text.setLength(300);
@@ -212,6 +211,20 @@ public final class OriginRulesModel {
                 spoil(random, text);
             }
             return text.toString();
+        }
+
+        private static StringBuilder rows(Random random) {
+            StringBuilder text = new StringBuilder();
+            int rows = random.nextInt(8) == 0 ? 15 + random.nextInt(8) : 1 + random.nextInt(5);
+            for (int i = 0; i < rows; i++) {
+                String[] beginnings = {"1", "1", "11", "1100", "110000", "0", "0", "01", "9", "2", "2", "21",
+                    "12", "00000"};
+                text.append(beginnings[random.nextInt(beginnings.length)]).append(':');
+                int deepest = rows > 10 ? 0 : random.nextInt(6) == 0 ? 9 : random.nextInt(3);
+                rule(random, text, deepest);
+                text.append(';');
+            }
+            return text;
         }
 
         private static void rule(Random random, StringBuilder text, int depth) {
