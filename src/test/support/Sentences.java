@@ -1,7 +1,7 @@
 /**
- * What the tests of sentences share, as their class above. Each test bears the number of a promise and the sentence of
- * the document that it is of, and a wrong answer is told with both. No object is used for more
- * than the 512 calls that the document speaks of.
+ * What the tests of sentences share, as their class above. Each test bears the number of a promise
+ * and the sentence of the document that it is of, and a wrong answer is told with both. No object
+ * is used for more than the 512 calls that the document speaks of.
  */
 abstract class Sentences {
     static final String ARGUMENT = "IllegalArgumentException";
